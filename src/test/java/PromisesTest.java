@@ -409,6 +409,7 @@ public final class PromisesTest {
         checks.due("the greatest", badness(0, 1000, 0, 4642), 10000);
         checks.due("beyond", badness(0, 1000, 0, 5000), 10000);
         checks.due("beyond what a long holds", badness(-100000, 1, 0, 1000000), 10000);
+        checks.due("a cube that wraps below 0", badness(0, 1, 0, 900000), 10000);
         checks.due("shrunk by all", badness(100, 0, 50, 50), 100);
         checks.due("shrunk by half", badness(100, 0, 50, 75), 12);
         checks.due("shrunk too much", badness(100, 0, 50, 49), 1000000);
