@@ -3,8 +3,8 @@ import java.util.ArrayList;
 import java.util.List;
 
 /**
- * Runs of mixed calls as long as the document allows, each answer held against a second telling of the document: great numbers
- * without bounds, and leaders by trying every place, so that no shortcut of the class is shared.
+ * Runs of mixed calls as long as the document allows, each answer held against a second telling of the document:
+ * great numbers without bounds, and leaders by trying every place, so that no shortcut of the class is shared.
  */
 public final class ModelTest {
     private static final int RUNS = 8000;
